@@ -11,7 +11,7 @@ import java.util.TreeSet;
 import java.util.regex.Matcher;
 import java.util.regex.Pattern;
 
-/** The face is the document's and no more, and the file keeps to the rules that can be looked up. */
+/** The face is the document's and no more; the file keeps to the rules that can be looked up. */
 public final class FaceTest {
     private static final Path SOURCE = Path.of("src/main/java/AssignmentDesk.java");
     private static final String BOUNDS = " throws IndexOutOfBoundsException";
@@ -141,7 +141,8 @@ public final class FaceTest {
                 Check.same(line, IMPORTS.contains(line.trim()), true);
             }
             if (line.contains("throw ")) {
-                Check.same(line.trim(), line.trim().matches("throw new \\w+\\(\"[^\"]*\"\\);"), true);
+                boolean isPlain = line.trim().matches("throw new \\w+\\(\"[^\"]*\"\\);");
+                Check.same(line.trim(), isPlain, true);
             }
         }
     }
