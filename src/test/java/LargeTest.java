@@ -1,9 +1,19 @@
-/** Tables as large as can be: against the reference as far as it reaches, then by what must hold. */
+/**
+ * Tables as large as can be: against the reference as far as it reaches, then by what must hold. A
+ * desk is good for 512 calls: so there is a new one for each row that is asked about.
+ */
 public final class LargeTest {
+    private final int[][] costs = new int[10][10];
+    private final boolean[] leftOut = new boolean[10];
     private long seed;
 
-    private LargeTest(long seed) {
+    private LargeTest(long seed, int span) {
         this.seed = seed;
+        for (int[] row : costs) {
+            for (int column = 0; column < 10; column++) {
+                row[column] = draw(2 * span + 1) - span;
+            }
+        }
     }
 
     private int draw(int bound) {
@@ -11,34 +21,50 @@ public final class LargeTest {
         return (int) ((seed >>> 33) % bound);
     }
 
-    /** Eight of ten rows and columns are active: as much as the reference can write down. */
-    private void againstReference(int span) {
-        AssignmentDesk desk = new AssignmentDesk();
+    private AssignmentDesk desk() {
+        AssignmentDesk desk = Desks.of(costs);
+        for (int k = 0; k < 10; k++) {
+            if (leftOut[k]) {
+                desk.setRow(k, false);
+                desk.setColumn(9 - k, false);
+            }
+        }
+        return desk;
+    }
+
+    private Reference reference() {
         Reference reference = new Reference();
         for (int k = 0; k < 10; k++) {
-            desk.addRow();
-            desk.addColumn();
             reference.addRow();
             reference.addColumn();
         }
-        int[] left = {draw(5), 5 + draw(5)};
-        for (int out : left) {
-            desk.setRow(out, false);
-            reference.setRow(out, false);
-            desk.setColumn(9 - out, false);
-            reference.setColumn(9 - out, false);
-        }
         for (int row = 0; row < 10; row++) {
             for (int column = 0; column < 10; column++) {
-                int cost = draw(2 * span + 1) - span;
-                desk.setCost(row, column, cost);
-                reference.setCost(row, column, cost);
+                reference.setCost(row, column, costs[row][column]);
+            }
+            if (leftOut[row]) {
+                reference.setRow(row, false);
+                reference.setColumn(9 - row, false);
             }
         }
-        compare(desk, reference);
+        return reference;
     }
 
-    private static void compare(AssignmentDesk desk, Reference reference) {
+    /** Eight of ten rows and columns are active: as much as the reference can write down. */
+    private void againstReference() {
+        leftOut[draw(5)] = true;
+        leftOut[5 + draw(5)] = true;
+        Reference reference = reference();
+        compareList(desk(), reference);
+        for (int row = 0; row < 10; row++) {
+            AssignmentDesk desk = desk();
+            for (int column = 0; column < 10; column++) {
+                comparePair(desk, reference, row, column);
+            }
+        }
+    }
+
+    private static void compareList(AssignmentDesk desk, Reference reference) {
         Check.same("digest()", desk.digest(), reference.digest());
         Check.same("optimalCount()", desk.optimalCount(), reference.optimalCount());
         Check.same("rank(30)", desk.rank(30), reference.rank(30));
@@ -48,11 +74,6 @@ public final class LargeTest {
             for (int row = 0; row < 10; row++) {
                 Check.same("rankedColumn(" + index + ", " + row + ")",
                         desk.rankedColumn(index, row), reference.rankedColumn(index, row));
-            }
-        }
-        for (int row = 0; row < 10; row++) {
-            for (int column = 0; column < 10; column++) {
-                comparePair(desk, reference, row, column);
             }
         }
     }
@@ -71,32 +92,30 @@ public final class LargeTest {
                 Check.answerOf(() -> reference.greatestCost(row, column)));
     }
 
-    /** Ten rows and columns, all active: each answer about a pair is told by other calls as well. */
-    private void byOtherCalls(int span) {
-        AssignmentDesk desk = Desks.even(10, 0);
+    /** Ten rows and columns, all active: each answer about a pair is told by other calls too. */
+    private void byOtherCalls() {
         for (int row = 0; row < 10; row++) {
+            AssignmentDesk desk = desk();
+            int total = desk.total();
             for (int column = 0; column < 10; column++) {
-                desk.setCost(row, column, draw(2 * span + 1) - span);
+                pairByOtherCalls(desk, row, column, total);
             }
         }
-        int total = desk.total();
-        for (int row = 0; row < 10; row++) {
-            for (int column = 0; column < 10; column++) {
-                String pair = "(" + row + ", " + column + ")";
-                int with = restOf(desk, row, column);
-                int cost = desk.cost(row, column);
-                int without = withoutPair(desk, row, column);
-                int greatest = Math.min(10000, without - with);
-                Check.same("regret" + pair, desk.regret(row, column), with + cost - total);
-                Check.same("loss" + pair, desk.loss(row, column), without - total);
-                Check.same("greatestCost" + pair, desk.greatestCost(row, column),
-                        greatest < -10000 ? -20000 : greatest);
-                Check.same("isPossible" + pair, desk.isPossible(row, column),
-                        with + cost == total);
-                Check.same("isCertain" + pair, desk.isCertain(row, column), without > total);
-            }
-        }
-        rankedInOrder(desk);
+        rankedInOrder(desk());
+    }
+
+    private void pairByOtherCalls(AssignmentDesk desk, int row, int column, int total) {
+        String pair = "(" + row + ", " + column + ")";
+        int rest = restOf(desk, row, column);
+        int with = rest + costs[row][column];
+        int without = withoutPair(desk, row, column);
+        int greatest = Math.min(10000, without - rest);
+        Check.same("regret" + pair, desk.regret(row, column), with - total);
+        Check.same("loss" + pair, desk.loss(row, column), without - total);
+        Check.same("greatestCost" + pair, desk.greatestCost(row, column),
+                greatest < -10000 ? -20000 : greatest);
+        Check.same("isPossible" + pair, desk.isPossible(row, column), with == total);
+        Check.same("isCertain" + pair, desk.isCertain(row, column), without > total);
     }
 
     private static int restOf(AssignmentDesk desk, int row, int column) {
@@ -116,32 +135,29 @@ public final class LargeTest {
         return total;
     }
 
-    private static long pathOf(AssignmentDesk desk, int index) {
-        long path = 0;
-        for (int row = 0; row < 10; row++) {
-            path = path * 16 + desk.rankedColumn(index, row);
-        }
-        return path;
-    }
-
-    private static void rankedInOrder(AssignmentDesk desk) {
-        int count = desk.rank(30);
-        Check.same("rank(30)", count, 30);
+    private void rankedInOrder(AssignmentDesk desk) {
+        Check.same("rank(30)", desk.rank(30), 30);
+        int total = desk.total();
         int optimal = 0;
-        for (int index = 0; index < count; index++) {
+        int lastSum = Integer.MIN_VALUE;
+        long lastPath = 0;
+        for (int index = 0; index < 30; index++) {
             int sum = 0;
+            long path = 0;
             for (int row = 0; row < 10; row++) {
-                sum += desk.cost(row, desk.rankedColumn(index, row));
+                int column = desk.rankedColumn(index, row);
+                sum += costs[row][column];
+                path = path * 16 + column;
+                if (index == 0) {
+                    Check.same("the first is kept", column, desk.columnOf(row));
+                }
             }
             Check.same("rankedCost(" + index + ")", desk.rankedCost(index), sum);
-            optimal += sum == desk.total() ? 1 : 0;
-            boolean isInOrder = index == 0 || desk.rankedCost(index - 1) < sum
-                    || desk.rankedCost(index - 1) == sum
-                    && pathOf(desk, index - 1) < pathOf(desk, index);
+            boolean isInOrder = lastSum < sum || lastSum == sum && lastPath < path;
             Check.same("order at " + index, isInOrder, true);
-        }
-        for (int row = 0; row < 10; row++) {
-            Check.same("the first is kept", desk.rankedColumn(0, row), desk.columnOf(row));
+            optimal += sum == total ? 1 : 0;
+            lastSum = sum;
+            lastPath = path;
         }
         Check.same("optimal ones in the list", optimal, Math.min(30, desk.optimalCount()));
     }
@@ -149,9 +165,9 @@ public final class LargeTest {
     public static void main(String[] args) {
         int[] spans = {1, 3, 20, 10000};
         for (int span : spans) {
-            new LargeTest(span + 5).againstReference(span);
+            new LargeTest(span + 5, span).againstReference();
             for (int round = 0; round < 5; round++) {
-                new LargeTest(span * 31L + round).byOtherCalls(span);
+                new LargeTest(span * 31L + round, span).byOtherCalls();
             }
         }
         Check.end();

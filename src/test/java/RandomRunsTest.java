@@ -1,7 +1,8 @@
 /** Runs of calls, drawn by a fixed rule, on a desk and on the reference: the answers must agree. */
 public final class RandomRunsTest {
-    private static final int RUNS = 600;
-    private static final int CALLS = 300;
+    private static final int RUNS = 1200;
+    /** What a desk answers to more calls is free. */
+    private static final int CALLS = 512;
     private static final double MOST_WEIGHT = 20000;
     private static final int[] ODD_NUMBERS = {Integer.MIN_VALUE, -10001, -1, 10, 31, 10001,
         Integer.MAX_VALUE};
@@ -14,6 +15,7 @@ public final class RandomRunsTest {
     private final AssignmentDesk desk = new AssignmentDesk();
     private final Reference reference = new Reference();
     private final StringBuilder calls = new StringBuilder();
+    private int made = 0;
 
     private RandomRunsTest(int run) {
         this.run = run;
@@ -57,7 +59,15 @@ public final class RandomRunsTest {
         return draw(2) == 0 ? FACTORS[draw(FACTORS.length)] : (draw(4001) - 2000) / 512.0;
     }
 
+    private boolean isOver() {
+        return made >= CALLS;
+    }
+
     private void compare(String call, Check.Call got, Check.Call due) {
+        if (isOver()) {
+            return;
+        }
+        made++;
         calls.append(' ').append(call);
         Object dueAnswer = Check.answerOf(due);
         Object gotAnswer = Check.answerOf(got);
@@ -155,7 +165,7 @@ public final class RandomRunsTest {
         } else {
             changeLevel();
         }
-        while (reference.weight() > MOST_WEIGHT) {
+        while (reference.weight() > MOST_WEIGHT && !isOver()) {
             forbid();
         }
     }
@@ -211,7 +221,7 @@ public final class RandomRunsTest {
 
     private void play() {
         build();
-        for (int call = 0; call < CALLS; call++) {
+        while (!isOver()) {
             switch (draw(8)) {
                 case 0:
                 case 1:

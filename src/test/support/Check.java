@@ -1,3 +1,8 @@
+import java.lang.reflect.InvocationTargetException;
+import java.lang.reflect.Method;
+import java.util.Arrays;
+import java.util.Comparator;
+
 /** Compares answers with those that are due, and ends a test with exit code 1 if one differs. */
 final class Check {
     interface Call {
@@ -40,6 +45,39 @@ final class Check {
         long before = desk.digest();
         fails(name, due, call);
         same("digest() behind " + name, desk.digest(), before);
+    }
+
+    /**
+     * Runs every method without parameters whose name begins with "promise" or "description": so
+     * that none can be written and left out. One that throws counts as a wrong answer.
+     */
+    static void runAll(Class<?> tests) {
+        Method[] methods = tests.getDeclaredMethods();
+        Arrays.sort(methods, Comparator.comparing(Method::getName));
+        int run = 0;
+        for (Method method : methods) {
+            boolean isTest = method.getName().matches("(promise|description).*");
+            if (isTest && method.getParameterCount() == 0) {
+                run++;
+                run(method);
+            }
+        }
+        System.out.println(run + " tests");
+        end();
+    }
+
+    private static void run(Method method) {
+        int wrongBefore = wrong;
+        try {
+            method.setAccessible(true);
+            method.invoke(null);
+        } catch (InvocationTargetException | IllegalAccessException failure) {
+            wrong++;
+            System.out.println(method.getName() + " ended with " + failure.getCause());
+        }
+        if (wrong != wrongBefore) {
+            System.out.println("WRONG: " + method.getName());
+        }
     }
 
     static void end() {
