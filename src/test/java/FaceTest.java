@@ -6,51 +6,16 @@ import java.lang.reflect.Modifier;
 import java.nio.file.Files;
 import java.nio.file.Path;
 import java.util.ArrayList;
-import java.util.Arrays;
 import java.util.List;
 import java.util.Set;
 import java.util.TreeSet;
 import java.util.regex.Matcher;
 import java.util.regex.Pattern;
+import java.util.stream.Stream;
 
 /** The face is the document's and no more; the file keeps to the rules that can be looked up. */
 public final class FaceTest {
     private static final Path SOURCE = Path.of("src/main/java/AssignmentDesk.java");
-    private static final String BOUNDS = " throws IndexOutOfBoundsException";
-    private static final String STATE = " throws IllegalStateException";
-    private static final String ARGUMENT = "IllegalArgumentException";
-    private static final String ARITHMETIC = "ArithmeticException";
-    private static final String ELEMENT = "NoSuchElementException";
-    private static final String[] METHODS = {
-        "int addRow()" + STATE,
-        "int addColumn()" + STATE,
-        "boolean setRow(int, boolean)" + BOUNDS,
-        "boolean setColumn(int, boolean)" + BOUNDS,
-        "boolean setCost(int, int, int)" + BOUNDS + " " + ARGUMENT,
-        "boolean forbid(int, int)" + BOUNDS,
-        "int addToRow(int, int)" + BOUNDS + " " + ARITHMETIC,
-        "int scaleColumn(int, double)" + BOUNDS + " " + ARGUMENT + " " + ARITHMETIC,
-        "int rowCount()",
-        "int columnCount()",
-        "boolean isAllowed(int, int)" + BOUNDS,
-        "int cost(int, int)" + BOUNDS + " " + ELEMENT,
-        "int size()",
-        "int total()",
-        "double meanCost()",
-        "int columnOf(int)" + BOUNDS,
-        "int rowOf(int)" + BOUNDS,
-        "int optimalCount()",
-        "boolean isPossible(int, int)" + BOUNDS,
-        "boolean isCertain(int, int)" + BOUNDS,
-        "int regret(int, int)" + BOUNDS + " " + ELEMENT,
-        "int loss(int, int)" + BOUNDS,
-        "int greatestCost(int, int)" + BOUNDS + " " + ELEMENT,
-        "int rank(int) throws " + ARGUMENT,
-        "int rankedCost(int)" + BOUNDS,
-        "int rankedColumn(int, int)" + BOUNDS,
-        "int push()" + STATE,
-        "int pop()" + STATE,
-        "long digest()"};
     /** What LANGUAGE.md rules out, as far as a word shows it; the number is the rule's. */
     private static final String[] RULED_OUT = {
         "2 a lambda: (?m)^(?!\\s*(case\\b|default\\b)).*->",
@@ -68,9 +33,9 @@ public final class FaceTest {
         "9 a loop without an end: \\bfor\\s*\\(\\s*;\\s*;",
         "12 identity: \\b(hashCode|identityHashCode)\\b",
         "13 the world: \\b(Thread|Runtime|Random|ProcessHandle|Scanner|Files|Clock|Instant)\\b"};
-    private static final Set<String> THROWN = Set.of("IllegalStateException", ARGUMENT,
-            "IndexOutOfBoundsException", ARITHMETIC, "UnsupportedOperationException", ELEMENT,
-            "RuntimeException");
+    private static final Set<String> THROWN = Set.of("IllegalStateException",
+            "IllegalArgumentException", "IndexOutOfBoundsException", "ArithmeticException",
+            "UnsupportedOperationException", "NoSuchElementException", "RuntimeException");
     /** What the machine itself throws, and what is above it: never to be caught as an answer. */
     private static final Set<String> NEVER_CAUGHT = Set.of("ArrayIndexOutOfBoundsException",
             "NullPointerException", "ClassCastException", "NegativeArraySizeException",
@@ -82,22 +47,27 @@ public final class FaceTest {
     private static final int MOST_FIELDS = 20;
     private static final int MOST_PARAMETERS = 7;
 
+    /** A method as the face has it, without the names, which a class file does not keep. */
     private static String described(Method method) {
-        StringBuilder text = new StringBuilder();
-        text.append(method.getReturnType().getSimpleName()).append(' ').append(method.getName());
-        text.append('(');
-        String gap = "";
+        List<String> types = new ArrayList<>();
         for (Class<?> type : method.getParameterTypes()) {
-            text.append(gap).append(type.getSimpleName());
-            gap = ", ";
+            types.add(type.getSimpleName());
         }
-        text.append(')');
-        gap = " throws ";
+        List<String> thrown = new ArrayList<>();
         for (Class<?> type : method.getExceptionTypes()) {
-            text.append(gap).append(type.getSimpleName());
-            gap = " ";
+            thrown.add(type.getSimpleName());
         }
-        return text.toString();
+        return method.getReturnType().getSimpleName() + " " + method.getName() + "("
+                + String.join(", ", types) + ") throws " + thrown;
+    }
+
+    private static Set<String> dueMethods() {
+        Set<String> due = new TreeSet<>();
+        for (String method : Face.METHODS) {
+            String signature = Face.withoutNames(Face.signatureOf(method));
+            due.add(signature + " throws " + Face.thrownBy(method));
+        }
+        return due;
     }
 
     private static void face() {
@@ -114,7 +84,7 @@ public final class FaceTest {
                 publicNames.add(method.getName());
             }
         }
-        Check.same("public methods", publicMethods, new TreeSet<>(Arrays.asList(METHODS)));
+        Check.same("public methods", publicMethods, dueMethods());
         constructor(desk);
         for (Method method : desk.getDeclaredMethods()) {
             boolean isPrivate = Modifier.isPrivate(method.getModifiers());
@@ -131,6 +101,22 @@ public final class FaceTest {
         Check.same("constructors", constructors.length, 1);
         Check.same("parameters of the constructor", constructors[0].getParameterCount(), 0);
         Check.same("the constructor is public", constructors[0].getModifiers(), Modifier.PUBLIC);
+    }
+
+    /** "The public face" with the names of the parameters too: only the source has them. */
+    private static void printedFace() throws IOException {
+        String source = withoutComments(Files.readString(SOURCE)).replaceAll("\\s+", " ");
+        for (String method : Face.METHODS) {
+            String due = "public " + method.replace("java.util.", "") + " {";
+            Check.same("the source has " + due, source.contains(due), true);
+        }
+    }
+
+    private static void oneFile() throws IOException {
+        try (Stream<Path> files = Files.walk(Path.of("src/main"))) {
+            List<Path> found = files.filter(Files::isRegularFile).toList();
+            Check.same("the program is one file", found, List.of(SOURCE));
+        }
     }
 
     private static List<Class<?>> withAllInside(Class<?> type) {
@@ -205,6 +191,8 @@ public final class FaceTest {
 
     public static void main(String[] args) throws IOException {
         face();
+        printedFace();
+        oneFile();
         shape();
         rules();
         Check.end();
